@@ -295,7 +295,7 @@ public final class MinuteBehind {
     }
 
     public int ring(int k) {
-        return k >= 1 && k <= RING_AT_MOST ? DAY / commonWithDay(k) : OUTSIDE;
+        return k >= 1 && k <= RING_AT_MOST ? leastClosing(k) : OUTSIDE;
     }
 
     public int count(int what) {
@@ -349,15 +349,13 @@ public final class MinuteBehind {
         return c >= 0 && c < DAY;
     }
 
-    /** The greatest divisor of both: never below 1, as 1 divides both. */
-    private static int commonWithDay(int k) {
-        int greatest = 1;
-        for (int d = 2; d <= DAY; d++) {
-            if (DAY % d == 0 && k % d == 0) {
-                greatest = d;
-            }
+    /** A whole day always closes the ring, so nothing above it is tried. */
+    private static int leastClosing(int k) {
+        int m = 1;
+        while (m < DAY && k * m % DAY != 0) {
+            m++;
         }
-        return greatest;
+        return m;
     }
 
     /** The houses, their clocks, and the roads between them. */

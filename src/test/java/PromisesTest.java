@@ -247,6 +247,12 @@ public final class PromisesTest {
         faultDue(shop.repeat(6) + "tidy;shop 0 0 1 0 0", NONE);
         faultDue(shop.repeat(6) + "street 2;shop 0 0 1 0 0", NONE);
         faultDue(deed.repeat(9) + "deed 0 0 0", NONE);
+        faultDue("street 4;" + wall.repeat(7) + "wall 0 1 5", NONE);
+        faultDue("street 4;" + wall.repeat(8) + "wall 0 1 5", 97);
+        faultDue("street 4;" + shop.repeat(5) + "shop 0 0 1 0 0", NONE);
+        faultDue("street 4;" + shop.repeat(6) + "shop 0 0 1 0 0", 99);
+        faultDue("tidy;" + shop.repeat(5) + "shop 0 0 1 0 0", NONE);
+        faultDue("tidy;" + shop.repeat(6) + "shop 0 0 1 0 0", 95);
         MinuteBehind x = told(deed + "deed 0 0 0");
         faultDue(x, deed.repeat(8) + "tidy", NONE);
         faultDue(x, deed.repeat(8) + "deed 0 0 0", 88);
