@@ -250,6 +250,18 @@ public final class LawEdgesTest {
         due(x.wrong(1), NONE);
     }
 
+    static void promise26_notEvenSoWhicheverBellWasFirst() {
+        int[][] bells = {{0, 0, 1, 0}, {0, 0, 2, 0}, {1, 0, 2, 1}};
+        for (int first = 0; first < 3; first++) {
+            MinuteBehind x = Edges.told(EVEN);
+            for (int i = 0; i < 3; i++) {
+                int[] bell = bells[(first + i) % 3];
+                due(x.bell(bell[0], bell[1], bell[2], bell[3]), i + 1);
+                due(x.wrong(0) == NONE ? 1 : 0, i == 2 ? 1 : 0);
+            }
+        }
+    }
+
     static void promise26_theLastHouseAlone() {
         MinuteBehind x = Edges.told(EVEN10);
         x.bell(8, 0, 9, 1);

@@ -343,6 +343,15 @@ public final class TextEdgesTest {
         faultAtMark("^tid", "^tidyy", "^stree 4", "^streets 4", "^wa 0 1", "^ways 0 1", "^walk 0 1 1", "^t", "^x");
     }
 
+    static void promise04_everyLetterOfAWordCounts() {
+        String[] lines = {"street 4", "behind 1 1", "way 0 1", "wall 0 1 1", "deed 0 0 0", "shop 0 0 1 0 0", "tidy"};
+        for (String line : lines) {
+            for (int i = 0; i < line.length() && line.charAt(i) != ' '; i++) {
+                faultAtMark("^" + line.substring(0, i) + "q" + line.substring(i + 1));
+            }
+        }
+    }
+
     static void promise04_onlySmallLetters() {
         faultAtMark("^Tidy", "^tiDy", "^tidY", "tidy^Y", "^TIDY", "^Street 4", "^sTreet 4");
     }
@@ -490,6 +499,7 @@ public final class TextEdgesTest {
         due(Edges.fault(Edges.told(lines(10, DEED)), "street 4;" + lines(9, DEED)), NONE);
         due(Edges.fault(Edges.told(lines(6, SHOP)), "street 4;" + lines(6, SHOP)), NONE);
         faultAtMark(Edges.told(lines(8, WALL)), "street 4;" + lines(8, WALL) + ";^" + WALL);
+        faultAtMark(Edges.told(lines(6, SHOP)), "street 4;" + lines(6, SHOP) + ";^" + SHOP);
     }
 
     static void promise04_housesBehindTheLinesAhead() {
