@@ -381,6 +381,16 @@ public final class DeedEdgesTest {
         due(y.walked(0, 2), 1);
     }
 
+    /** The shortest way from 0 to 1 leads by 3, where it is the day ahead: the walk does not come there. */
+    static void promise22_housesPassedOnTheWayAreNotAsked() {
+        MinuteBehind x = walking(Edges.told("behind 1 0;behind 2 0;behind 3 999;way 0 99;way 1 99;way 2 99;"
+            + "wall 0 3 1;wall 3 1 1"), 0, 1);
+        due(x.walked(0, 0), 2);
+        due(x.walked(0, 1), 0);
+        due(x.walked(0, 2), 0);
+        due(x.shows(3, 1, 1), 99);
+    }
+
     static void promise22_datesBelow0() {
         MinuteBehind x = walking(Edges.told("behind 1 5;way 0 5"), 1, 1);
         due(x.walked(3, 1), 0);

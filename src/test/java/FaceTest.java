@@ -104,6 +104,17 @@ public final class FaceTest {
                 calls.group() + " is in the library that is left");
         }
         methodsStayShort(code);
+        objectsAreMadeInFieldsAlone(code);
+        must(!Pattern.compile("[/%]=?\\s*+(?!DAY\\b)").matcher(code).find(),
+            "nothing is divided by a number that could be 0");
+    }
+
+    /** The room that all calls share is spent by constructors alone. */
+    private static void objectsAreMadeInFieldsAlone(String code) {
+        for (String line : code.split("\n")) {
+            must(!line.matches(".*\\bnew\\b.*") || line.matches(" +(private )?final [\\w\\[\\]]+ \\w+ = new .*;"),
+                "made with its object, not by a call: " + line.trim());
+        }
     }
 
     private static void methodsStayShort(String code) {
